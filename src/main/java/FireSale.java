@@ -935,7 +935,8 @@ public final class FireSale {
         gifts[book.houses - 1] = n;
         copyAll(gifts, bestGifts);
         int least = lostWithGifts(v);
-        for (int i = 1; i < MOST_ROWS && toNextRow(book.houses); i++) {
+        // less than 0 can't be LOST
+        for (int i = 1; i < MOST_ROWS && least > 0 && toNextRow(book.houses); i++) {
             int lost = lostWithGifts(v);
             if (lost < least) {
                 least = lost;
@@ -1371,7 +1372,7 @@ public final class FireSale {
         void addSales(int house, int due, int[] sold) {
             boolean falling = facts[house * FACTS + WAY] == 1;
             int left = due;
-            for (int i = 0; i < assets; i++) {
+            for (int i = 0; i < assets && left > 0; i++) {
                 int asset = falling ? assets - 1 - i : i;
                 int part = Math.min(left, holdings[house * ASSETS + asset]);
                 sold[asset] += part;
@@ -1401,7 +1402,7 @@ public final class FireSale {
             return true;
         }
 
-        /** More SOLD or FALLEN never makes the NEXT one less: so this ends long before the bound. */
+        /** More SOLD or FALLEN never makes NEXT less: so this ends long before the bound. */
         int toLeast(State state, State spare) {
             calm(state);
             int count = 0;
