@@ -816,26 +816,22 @@ public final class FireSale {
         return (int) bitsOf((double) x, 127, 23);
     }
 
-    /** No library call that LANGUAGE.md lists tells the bits: x (not below 0) is scaled by hand. */
+    /**
+     * LANGUAGE.md lists no library call that tells bits: so x is scaled by hand. INDEX, RATIO and
+     * MOOD are 1 at most, and 0 or far above the least number of their type.
+     */
     private static long bitsOf(double x, int bias, int width) {
         if (x <= 0.0) {
             return 0L;
         }
         double scaled = x;
-        int exponent = 0;
-        for (int i = 0; i <= bias && scaled >= 2.0; i++) {
-            scaled = scaled / 2.0;
-            exponent++;
-        }
-        while (scaled < 1.0 && exponent > 1 - bias) {
+        int exponent = bias;
+        while (scaled < 1.0 && exponent > 1) {
             scaled = scaled * 2.0;
             exponent--;
         }
         double unit = (double) (1L << width);
-        if (scaled < 1.0) {
-            return (long) (scaled * unit);
-        }
-        return ((long) (exponent + bias) << width) + (long) ((scaled - 1.0) * unit);
+        return ((long) exponent << width) + (long) ((scaled - 1.0) * unit);
     }
 
     // ---- what if
@@ -1159,7 +1155,7 @@ public final class FireSale {
         int addHouse() {
             int house = houses;
             houses++;
-            emptyHouse(house);
+            // all else of a place without a HOUSE is 0
             setFact(house, STEP, 1);
             setFact(house, WAY, 0);
             return house;
@@ -1232,7 +1228,7 @@ public final class FireSale {
                     setLoan(i, j, loanOf(source, j < house ? j : j + 1));
                 }
             }
-            // sums go over all rows: the place left behind must hold nothing
+            // the next HOUSE that comes there has nothing of this one
             emptyHouse(last);
             houses = last;
         }

@@ -190,10 +190,14 @@ public final class AskedAndStatesTest {
         }
     }
 
-    private static void promises33And34() {
-        FireSale x = Check.of("asset 10 1;asset 7 0;asset 5 1;asset 5 1;"
+    private static FireSale promise33World() {
+        return Check.of("asset 10 1;asset 7 0;asset 5 1;asset 5 1;"
                 + "house 4 50 20 6 0 3 5 1 2;house 5 0 0 1 0 1;house 0 0 90 9 1 2 4;loan 1 0 3;"
                 + "loan 0 2 2;cap 0 4;");
+    }
+
+    private static void promises33And34() {
+        FireSale x = promise33World();
         due("33: calm", x.next(0, 0, 0, 7), 5);
         due("33: calm", x.next(0, 0, 0, 1), 4);
         // 6 and 9 are SOLD: house 0 is worth 4 + 12 + 35 + 5 + 10 + 3 - 52 = 17, sells 1
@@ -218,6 +222,11 @@ public final class AskedAndStatesTest {
         due("33: no such asset", Check.of("asset 1 1;").next(1, 0, 0, 1), -1);
         due("33: sold of an asset that is not there",
                 Check.of("asset 9 1;house 0 0 0 1 0 3;").next(1, 0, 0, 4), -2);
+        Check.tell(x, "asset 9 1;house 0 0 0 1 0 3;house 5 0 0 1 0;house 5 0 0 1 0;");
+        due("33: fewer assets now", x.text(), 3);
+        due("33: nothing is held of 1 now", x.next(1, 0, 0, 4), -2);
+        due("23: panic", x.state(3, 7), 3);
+        x = promise33World();
         due("34: calm is not", x.isSteady(0, 0, 0), 0);
         due("34: least is", x.isSteady(1000 * x.state(1, 0) + x.state(1, 1),
                 1000 * x.state(1, 2) + x.state(1, 3), x.state(1, 4)), 1);

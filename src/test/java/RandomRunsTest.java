@@ -297,7 +297,7 @@ public final class RandomRunsTest {
     private void askDear() {
         int a = house();
         int c = asset();
-        switch (dice.below(6)) {
+        switch (dice.below(8)) {
             case 0 -> due("coinsFor " + a, x.coinsFor(a), o.coinsFor(a));
             case 1 -> due("capFor " + c, x.capFor(c), o.capFor(c));
             case 2 -> due("shockFor " + c, x.shockFor(c), o.shockFor(c));

@@ -81,6 +81,10 @@ public final class ToldAndActsTest {
         text("  x", -6);
         text("assets 1 1;", -4);
         text("asse", -4);
+        text("assetz 1 1;", -4);
+        text("bsset 1 1;", -4);
+        text("asset 1 1;dap 0 1;", -14);
+        text("asset 1 1;cap 0 1;cat 0 1;", -22);
         text("Asset 1 1;", -4);
         text("asset", -9);
         text("asset  ", -11);
@@ -178,6 +182,7 @@ public final class ToldAndActsTest {
         due("9: 999", x.loan(0, 1, 999), 0);
         due("9: again", x.loan(0, 1, 7), 999);
         due("9: one way", x.owes(1, 0), 0);
+        due("9: none again", x.loan(0, 1, 0), 7);
         due("10: base 0", x.curve(0, 0, 0), -1);
         due("10: base 201", x.curve(0, 0, 201), -1);
         due("10: slope 10", x.curve(0, 1, 10), -1);
@@ -189,7 +194,7 @@ public final class ToldAndActsTest {
         due("10: base", x.curve(1, 0, 200), 9);
         due("10: slope", x.curve(1, 1, 0), 2);
         due("10: told", x.ofAsset(1, 0) * 10 + x.ofAsset(1, 1), 2000);
-        due("8 to 10: acts", x.count(2), 6);
+        due("8 to 10: acts", x.count(2), 7);
     }
 
     private static void promises11And12() {

@@ -104,6 +104,12 @@ public final class WereAndTextsTest {
         due("43: house 0, then 1", x.aid(2, 1, 0) * 100 + x.aid(2, 1, 1) * 10 + x.aid(2, 1, 2), 110);
         due("44: both to house 2", x.bestAid(2, 1, -1), 18);
         due("44: has", x.bestAid(2, 1, 0) * 100 + x.bestAid(2, 1, 1) * 10 + x.bestAid(2, 1, 2), 2);
+        // house 0 would need three gifts: rows tried earlier leave nothing with it
+        x = Check.of("asset 10 1;asset 9 1;house 0 33 0 1 0 3;house 0 38 0 1 0 0 4;");
+        due("44: two", x.bestAid(2, 1, -1), 9);
+        due("44: have", x.bestAid(2, 1, 0) * 10 + x.bestAid(2, 1, 1), 2);
+        due("44: four are one too few for both", x.bestAid(4, 1, -1), 9);
+        due("43: of like ones the first gets all", x.aid(5, 1, -1) * 10 + x.aid(5, 1, 0), 165);
     }
 
     private static void promise45() {
