@@ -157,6 +157,14 @@ public final class ToldAndActsTest {
             due("7: told", x.of(2, what), most[what]);
             due("7: others", x.of(3, what), what == 0 ? 9996 : what == 1 ? 3 : what == 3 ? 1 : 0);
         }
+        Check.tell(x, "asset 9 1;house 1 2 3 4 1 5;house 1 2 3 4 1 5;loan 0 1 6;");
+        due("6: told anew", x.text(), 2);
+        Check.tell(x, "asset 9 1;house 7 7 7 7 1 7;");
+        due("6: and again", x.text(), 1);
+        due("6: a house comes", x.house(8, 9), 1);
+        Check.dueText("6: with nothing of one that was told before", Check.spelt(x),
+                "asset 9 1;house 7 7 7 7 1 7;house 8 9 0 1 0 0;");
+        x.house(8, 9);
         due("7: what 5", x.set(2, 5, 1), -1);
         due("7: what -1", x.set(2, -1, 1), -1);
         due("7: house 6", x.set(6, 0, 1), -1);
