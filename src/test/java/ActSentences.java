@@ -238,6 +238,11 @@ final class ActSentences {
         Doc.does(world, "lift 1 1 = 1", assets + caps + "shock 0 5;" + both);
         Doc.does(world, "lift 2 0 = 1", assets + caps + shocks + "|lay 2 1 0 8");
         Doc.does(ASSET + "cap 0 1;", "lift 0 0 = 0", ASSET);
+        String full = ASSET + "|lay 2 0 0 1|lay 2 1 0 2|lay 2 0 0 3|lay 2 1 0 4";
+        Doc.does(full, "lift 2 0 = 3", ASSET + "|lay 2 1 0 2|lay 2 0 0 3|lay 2 1 0 4");
+        Doc.does(full, "lift 2 1 = 3", ASSET + "|lay 2 0 0 1|lay 2 0 0 3|lay 2 1 0 4");
+        Doc.does(full, "lift 2 2 = 3", ASSET + "|lay 2 0 0 1|lay 2 1 0 2|lay 2 1 0 4");
+        Doc.does(full, "lift 2 3 = 3", ASSET + "|lay 2 0 0 1|lay 2 1 0 2|lay 2 0 0 3");
         Doc.says(12, "NONE: no such ones.");
         Doc.none(world, "lift -1 0", "lift 3 0", "lift MIN 0", "lift MAX 0", "lift 0 -1",
                 "lift 0 4", "lift 1 2", "lift 1 3", "lift 2 2", "lift 2 4", "lift 0 MIN",
@@ -289,6 +294,15 @@ final class ActSentences {
                 + "loan 1 4 9;loan 4 0 6;loan 2 3 5;", "merge 0 1 = 0", HOUSE.repeat(4)
                 + "loan 0 1 999;loan 0 2 999;loan 0 3 9;loan 1 0 998;loan 1 2 5;loan 2 0 999;"
                 + "loan 3 0 6;");
+        Doc.does(HOUSE.repeat(4) + "loan 1 0 1;loan 2 0 2;loan 0 1 3;loan 0 2 4;loan 1 3 5;"
+                + "loan 3 2 6;loan 1 2 7;loan 2 1 8;", "merge 2 1 = 1",
+                HOUSE.repeat(3) + "loan 0 1 7;loan 1 0 3;loan 1 2 5;loan 2 1 6;");
+        Doc.answers(HOUSE + HOUSE + "loan 0 1 7;loan 1 0 8;|merge 0 1", "owes 0 0 = 0",
+                "of 0 6 = 0", "of 0 7 = 0", "worth 0 0 = 0");
+        Doc.does(ASSET.repeat(4) + "house 0 0 0 1 0 1 2 3 4;house 0 0 0 1 0 5 6 7 8;"
+                + "house 0 0 0 1 0 9 10 11 12;house 0 0 0 1 0 13 14 15 16;", "merge 0 2 = 0",
+                ASSET.repeat(4) + "house 0 0 0 1 0 10 12 14 16;house 0 0 0 1 0 5 6 7 8;"
+                + "house 0 0 0 1 0 13 14 15 16;");
     }
 
     private static void mergeNumbers() {
@@ -369,6 +383,9 @@ final class ActSentences {
                 "asset 10 0;house 10 0 33 1 0 2;house 0 0 33 1 0 3;cap 0 1;");
         Doc.does("asset 10 0;" + two + two + "cap 0 6;", "live = 6",
                 "asset 10 0;house 30 0 33 1 0 0;house 30 0 33 1 0 0;cap 0 6;");
+        String one = "house 0 0 31 1 0 3;";
+        Doc.does("asset 10 0;" + one.repeat(3), "live = 3",
+                "asset 10 0;" + "house 10 0 31 1 0 2;".repeat(3));
         // 3 of 4 pieces, by WAY; the CAP of one ASSET does not shift them to the other one
         String caps = "cap 0 1;";
         Doc.does("asset 10 0;asset 10 0;house 0 0 43 1 0 2 2;" + caps, "live = 2",

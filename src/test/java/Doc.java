@@ -82,11 +82,13 @@ final class Doc {
         Check.dueText(now + ": " + call, got, want);
     }
 
-    /** The call answers so, and nothing changes by it. */
+    /** The call answers so, again and again, and nothing changes by it. */
     static void answer(String world, String call, long want) {
         Thing t = Thing.of(world);
+        t.use();
         String was = t.whole();
         due(call + " in " + world, t.call(call), want);
+        due(call + " again in " + world, t.call(call), want);
         dueText(call + " changes nothing in " + world, t.whole(), was);
     }
 
@@ -109,6 +111,7 @@ final class Doc {
     static void does(String world, String row, String after) {
         String[] sides = row.split(" = ");
         Thing t = Thing.of(world);
+        t.use();
         String was = t.things();
         long acts = t.call("count 2");
         due(row + " in " + world, t.call(sides[0]), Long.parseLong(sides[1]));

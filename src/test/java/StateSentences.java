@@ -142,6 +142,11 @@ final class StateSentences {
         Doc.answers("asset 10 0;house 0 0 331 1 0 30;", "mustSell 0 0 -1 = 30");
         Doc.answers("asset 10 0;house 0 0 9999 1 0 30;", "mustSell 0 0 -1 = 30");
         Doc.answers("asset 10 0;house 0 300 1 2 0 30;", "mustSell 0 0 -1 = 1");
+        // each HOUSE by its own STEP
+        Doc.answers("asset 10 0;house 0 0 309 1 0 30;house 0 0 309 2 0 30;house 0 0 309 3 0 30;"
+                + "house 0 0 309 4 0 30;house 0 0 309 5 0 30;house 0 0 309 9 0 30;",
+                "mustSell 0 0 0 = 9", "mustSell 0 1 0 = 5", "mustSell 0 2 0 = 3",
+                "mustSell 0 3 0 = 3", "mustSell 0 4 0 = 2", "mustSell 0 5 0 = 1");
         Doc.answers("house 0 0 9999 1 0;", "mustSell 0 0 -1 = 0");
     }
 
@@ -149,6 +154,11 @@ final class StateSentences {
         Doc.says(Doc.TERMS, "by ASSETS rising (WAY 0) or falling (WAY 1), of each as far as it "
                 + "holds of it.");
         String assets = "asset 10 0;".repeat(4);
+        // each HOUSE by its own WAY
+        Doc.answers(assets + ("house 0 0 41 1 0 1 1 1 1;" + "house 0 0 41 1 1 1 1 1 1;").repeat(3),
+                "mustSell 0 0 0 = 1", "mustSell 0 1 0 = 0", "mustSell 0 1 3 = 1",
+                "mustSell 0 4 0 = 1", "mustSell 0 4 3 = 0", "mustSell 0 5 0 = 0",
+                "mustSell 0 5 3 = 1");
         // WORTH 100; by STEP 1 as many pieces as the FLOOR is above 100
         int[][] rising = {{1, 0, 0, 0}, {2, 0, 0, 0}, {2, 0, 1, 0}, {2, 0, 2, 0}, {2, 0, 3, 0},
             {2, 0, 3, 1}, {2, 0, 3, 5}, {2, 0, 3, 5}};
@@ -241,6 +251,8 @@ final class StateSentences {
         Doc.none(ASSET, "state 0 1", "state 1 1", "state 2 2");
         Doc.answers(ASSET, "state 1 0 = 0");
         // fewer ASSETS than an earlier TEXT told
+        Thing t = Thing.of(world + "|state 3 7|asset 9 1;house 0 0 0 1 0 3;");
+        Doc.due("PANIC of fewer ASSETS", t.call("state 3 7"), 3);
         Doc.none(world + "|" + SPIRAL, "state 1 1", "state 3 2");
         Doc.answers(world + "|" + SPIRAL, "state 1 0 = 9", "state 1 4 = 3", "state 1 7 = 9",
                 "state 3 7 = 9", "state 3 4 = 3", "state 0 7 = 0", "rounds false = 3");
@@ -345,6 +357,7 @@ final class StateSentences {
         // 3 more in each of three ROUNDS
         Doc.answers("asset 40 1;house 0 110 11 3 0 3;", "round 1 5 = 3", "round 2 5 = 6",
                 "round 3 5 = 9", "sharpest = 1");
+        Doc.answers("asset 2 1;house 0 9 0 1 0 1;", "round 1 5 = 1", "sharpest = 1");
         Doc.says(30, "-2: by none it becomes more.");
         Doc.answers("", "sharpest = -2");
         Doc.answers(TWO, "sharpest = -2");
@@ -417,6 +430,9 @@ final class StateSentences {
                 "next -1 0 0 4 = -2", "next -1000 0 0 4 = -2", "next 0 -1 0 4 = -2",
                 "next 0 -1000 0 4 = -2", "next 0 0 -1 4 = -2", "next MIN 0 0 4 = -2",
                 "next 0 MIN 0 4 = -2", "next 0 0 MIN 4 = -2");
+        // what was HELD of more ASSETS in an earlier TEXT
+        Doc.answers(world + "|state 3 7|asset 9 1;house 0 0 0 1 0 3;", "next 1 0 0 4 = -2",
+                "next 0 1 0 4 = -2", "next 0 1000 0 4 = -2", "state 3 7 = 3");
         Doc.answers(HOUSE.repeat(6), "next 0 0 63 4 = 0", "next 0 0 64 4 = -2",
                 "next 0 0 127 4 = -2");
         Doc.says(33, "NONE: what is asked is none of these, or an ASSET that there is not.");

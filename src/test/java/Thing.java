@@ -13,6 +13,9 @@ final class Thing {
     static final int MOST_CALLS = 512;
 
     private static final Map<String, Method> METHODS = methods();
+    private static final String[] USES = {"state 3 7", "mustSell 3 0 0", "aid 2 500 0",
+        "bestAid 3 500 -1", "buyer 0 9 5", "stress 40 5", "next 0 0 0 4", "ranked 0", "spell -1",
+        "domino 0 4"};
 
     private final FireSale x = new FireSale();
     private int calls = 0;
@@ -86,6 +89,13 @@ final class Thing {
         }
     }
 
+    /** Asks, which change nothing: but then the object's own rows are no longer as new. */
+    void use() {
+        for (String told : USES) {
+            call(told);
+        }
+    }
+
     private void addShelf(StringBuilder all, int shelf) {
         long laid = call("count " + (4 + shelf));
         for (int place = 0; place < laid; place++) {
@@ -113,15 +123,18 @@ final class Thing {
     }
 
     private void addLoans(StringBuilder all, long houses) {
+        int count = 0;
         for (int from = 0; from < houses; from++) {
             for (int to = 0; to < houses; to++) {
-                long v = from == to ? 0 : call("owes " + from + " " + to);
+                long v = call("owes " + from + " " + to);
                 if (v != 0) {
+                    count++;
                     all.append("loan ").append(from).append(' ').append(to).append(' ').append(v)
                             .append(';');
                 }
             }
         }
+        Check.due("LOANS in " + all, call("count 7"), count);
     }
 
     /** ASSETS, HOUSES, LOANS, SHELVES, asked one by one, in the form that of() takes. */

@@ -215,15 +215,32 @@ final class ToldSentences {
                 + "shock 1 8;shock 0 6;shock 0 200;shock 1 0;");
     }
 
+    /** A WORD with a letter too few, too many, or another one, at each place. */
+    private static void otherWords(String word) {
+        for (int i = 0; i <= word.length(); i++) {
+            for (char letter = 'a'; letter <= 'z'; letter++) {
+                String more = word.substring(0, i) + letter + word.substring(i);
+                Doc.fault("^" + more + " 1 1;");
+                if (i < word.length() && letter != word.charAt(i)) {
+                    String other = word.substring(0, i) + letter + word.substring(i + 1);
+                    Doc.fault("^" + other + " 1 1;");
+                }
+            }
+            if (i < word.length()) {
+                Doc.fault("^" + word.substring(0, i) + word.substring(i + 1) + " 1 1;");
+            }
+        }
+    }
+
     private static void signs() {
         Doc.says(Doc.TERMS, "WORDS are small letters as far as they go on, N digits as far as they "
                 + "go on (one to four, 0s ahead, too).");
         Doc.reads("asset 0001 0000;house 0000 9999 0010 0099 0001 0060;",
                 "asset 1 0;house 0 9999 10 99 1 60;");
-        Doc.fault("^asse 1 1;");
-        Doc.fault("^assets 1 1;");
+        for (String word : WORDS) {
+            otherWords(word);
+        }
         Doc.fault("^as set 1 1;");
-        Doc.fault("^a");
         Doc.fault("^Asset 1 1;");
         Doc.fault("^ASSET 1 1;");
         Doc.fault("asset^S 1 1;");
@@ -243,6 +260,10 @@ final class ToldSentences {
                 Doc.fault("^" + sign);
                 if (sign < '0' || sign > '9') {
                     Doc.fault("asset 1^" + sign + "1;");
+                    Doc.fault("asset ^" + sign + "1 1;");
+                }
+                if (sign < 'a' || sign > 'z') {
+                    Doc.fault("asset^" + sign + "1 1;");
                 }
             }
         }

@@ -195,6 +195,10 @@ final class WereSentences {
                 "bestAid 4 999 -1 = 12", "bestAid 4 999 0 = 0", "bestAid 4 999 1 = 0",
                 "bestAid 4 999 2 = 1", "bestAid 4 999 5 = 1", "aid 4 999 0 = 1", "aid 4 999 3 = 1",
                 "aid 4 999 4 = 0");
+        // house 0 would need three gifts: the ways tried earlier leave nothing with it
+        String three = "asset 10 1;asset 9 1;house 0 33 0 1 0 3;house 0 38 0 1 0 0 4;";
+        Doc.answers(three, "bestAid 2 1 -1 = 9", "bestAid 2 1 0 = 0", "bestAid 2 1 1 = 2",
+                "bestAid 4 1 -1 = 9");
         // four gifts in each way, of which but one is the best: those at 1, 1, 4 and 5
         String apart = "asset 10 1;asset 10 1;asset 10 1;house 0 1 0 1 0;house 0 22 0 1 0 2;"
                 + "house 0 1 0 1 0;house 0 1 0 1 0;house 0 11 0 1 0 0 1;house 0 11 0 1 0 0 0 1;";
@@ -363,6 +367,8 @@ final class WereSentences {
         // SHOCKS are what they are; PRICE is 0 at least
         Doc.answers("asset 200 1;shock 0 90;house 0 10 0 1 0 1;", "stress 50 4 = 0",
                 "stress 49 4 = 1", "stress 49 5 = 1", "stress 45 5 = 0", "stress 0 5 = 0");
+        Doc.answers("asset 10 0;asset 20 0;asset 30 0;asset 40 0;house 0 50 0 1 0 1 1 1 1;",
+                "stress 50 6 = 0", "stress 49 6 = 1", "stress 49 7 = 4");
         Doc.says(52, "NONE: no such ones.");
         Doc.none(world, "stress -1 5", "stress 101 5", "stress MIN 5", "stress MAX 5",
                 "stress 50 -1", "stress 50 2", "stress 50 8", "stress 50 MIN", "stress 50 MAX");
