@@ -8,7 +8,9 @@ import java.nio.file.Path;
 import java.util.ArrayList;
 import java.util.Arrays;
 import java.util.List;
+import java.util.Map;
 import java.util.Set;
+import java.util.TreeMap;
 import java.util.TreeSet;
 import java.util.regex.Matcher;
 import java.util.regex.Pattern;
@@ -139,11 +141,61 @@ public final class FaceTest {
         }
     }
 
+    /** Each method's name with the names that its lines call; like names count as one. */
+    private static Map<String, Set<String>> calls(String code) {
+        Map<String, Set<String>> all = new TreeMap<>();
+        String indent = null;
+        String name = "";
+        for (String line : code.split("\n")) {
+            Matcher head = Pattern.compile("( {4,8})[\\w ]*[\\w\\]] (\\w+)\\(.*\\) \\{")
+                    .matcher(line);
+            if (indent == null && head.matches()) {
+                indent = head.group(1);
+                name = head.group(2);
+                all.putIfAbsent(name, new TreeSet<>());
+            } else if (indent != null && line.equals(indent + "}")) {
+                indent = null;
+            } else if (indent != null) {
+                Matcher call = Pattern.compile("\\b(\\w+)\\(").matcher(line);
+                while (call.find()) {
+                    all.get(name).add(call.group(1));
+                }
+            }
+        }
+        return all;
+    }
+
+    /** How many calls stand open at once at most; more than ever for one that calls itself. */
+    private static int depth(Map<String, Set<String>> calls, String name, int open) {
+        int most = 1;
+        for (String called : calls.getOrDefault(name, Set.of())) {
+            if (open < 50 && !Set.of("if", "for", "while", "switch").contains(called)) {
+                most = Math.max(most, 1 + depth(calls, called, open + 1));
+            }
+        }
+        return most;
+    }
+
+    private static void depths(String source) {
+        Map<String, Set<String>> calls = calls(bare(source));
+        for (Class<?> c : classes()) {
+            for (Method m : c.getDeclaredMethods()) {
+                Check.due("is found: " + m, calls.containsKey(m.getName()) ? 1 : 0, 1);
+            }
+        }
+        for (String name : calls.keySet()) {
+            int depth = depth(calls, name, 1);
+            Check.due("eight deep at most: " + name + " is " + depth, depth <= 8 ? 1 : 0, 1);
+        }
+    }
+
     public static void main(String[] args) throws IOException, IllegalAccessException {
         face(Files.readString(Path.of(System.getProperty("shared"), "DOC.md")));
         members();
         sizes();
-        language(Files.readString(Path.of(System.getProperty("main"))));
+        String source = Files.readString(Path.of(System.getProperty("main")));
+        language(source);
+        depths(source);
         Check.end();
     }
 }

@@ -26,7 +26,8 @@ final class OracleText {
 
     OracleText(String text) {
         length = text.length();
-        String rest = text.replaceAll("[ \n]*$", "");
+        // not $, which stands ahead of a last \r or (char) 133 as well
+        String rest = text.replaceAll("[ \n]+\\z", "");
         Matcher m = PIECE.matcher(rest);
         int at = 0;
         boolean afterSign = false;
